@@ -197,8 +197,13 @@ public final class ThinVolumes {
             return INVALID_ARGUMENT;
         }
         int sizes = pool.allSizes();
-        int divisor = commonDivisorWithPieces(sizes);
-        return (part == 0 ? sizes : PIECES) / divisor;
+        int whole = part == 0 ? sizes : PIECES;
+        for (int divisor = PIECES; divisor > 1; divisor--) {
+            if (sizes % divisor == 0 && PIECES % divisor == 0) {
+                return whole / divisor;
+            }
+        }
+        return whole;
     }
 
     public int count(int what) {
@@ -276,15 +281,6 @@ public final class ThinVolumes {
     private static boolean isError(int answer) {
         return answer == INVALID_ARGUMENT || answer == NOT_POSSIBLE
             || answer == LIMIT_REACHED || answer == NOT_FOUND;
-    }
-
-    private static int commonDivisorWithPieces(int number) {
-        for (int divisor = PIECES; divisor > 1; divisor--) {
-            if (number % divisor == 0 && PIECES % divisor == 0) {
-                return divisor;
-            }
-        }
-        return 1;
     }
 
     /** All that a change can change: everything but the text and the history. */

@@ -64,8 +64,9 @@ public final class TextsTest {
             "t0,0,0;", "t,0;", "s;", "s0", "s0,0;", "c;", "c000;", "d;", "dd;", "x0;", "w0,0,1:", "w/,0,0;",
             "s0/;", "s:;", "w0,0,0;;"};
         for (String text : wrong) {
-            Check.dueFault(x, text, text.equals("w0,0,0;;") ? 7 : 0, 1);
-            Check.dueFault(x, "m;" + text, text.equals("w0,0,0;;") ? 9 : 2, 1);
+            ThinVolumes y = Check.withVolumes(40);
+            Check.dueFault(y, text, text.equals("w0,0,0;;") ? 7 : 0, 1);
+            Check.dueFault(y, "m;" + text, text.equals("w0,0,0;;") ? 9 : 2, 1);
         }
     }
 
